@@ -278,9 +278,7 @@ public final class TraceQuestions {
             values[DAY][count] = day;
             values[OWNER][count] = owner;
             count++;
-            for (int field = 0; field < FIELDS; field++) {
-                putInOrder(field);
-            }
+            putInOrders();
             return count;
         }
 
@@ -300,11 +298,13 @@ public final class TraceQuestions {
             return tail == Question.DOWNWARD ? downward[field][place] : upward[field][place];
         }
 
-        /** Puts the newest row into both orders of a field, behind those that are equal. */
-        private void putInOrder(int field) {
-            int value = value(count, field);
-            insert(upward[field], behindLast(field, value, false));
-            insert(downward[field], behindLast(field, value, true));
+        /** Puts the newest row into both orders of each field, behind those that are equal. */
+        private void putInOrders() {
+            for (int field = 0; field < FIELDS; field++) {
+                int value = value(count, field);
+                insert(upward[field], behindLast(field, value, false));
+                insert(downward[field], behindLast(field, value, true));
+            }
         }
 
         /** The place behind the last row that an order has before such a value. */

@@ -15,6 +15,7 @@ public final class KeptTest {
         savedTellsTheLatest();
         savedDear();
         savedMasked();
+        fieldsOfATextBefore();
         savedGroups();
         aTextOfItsOwn();
         check.end();
@@ -196,6 +197,23 @@ public final class KeptTest {
                 x.masked(field, false);
             }
         }
+    }
+
+    /** The fields of a text that was read before, with a fault or not, are not a kept question's. */
+    private static void fieldsOfATextBefore() {
+        TraceQuestions x = Check.fourRows();
+        check.dueAsk(x, 0, "k=2&o=1&", -9);
+        check.due("save with a fault", save(x, 0, 1, "p=1+x"), -5);
+        check.due("save", save(x, 0, 1, "i=7"), 1);
+        check.dueAsk(x, 0, "k=2", 2);
+        check.dueAsk(x, 0, "d=100", 1);
+        check.due("save", save(x, 0, 1, "i=8"), 2);
+        for (int field = 1; field < 5; field++) {
+            x.masked(field, true);
+        }
+        check.due("tick", x.tick(1), 2);
+        check.due("saved(1)", x.saved(1), 2);
+        check.due("saved(2)", x.saved(2), 1);
     }
 
     private static void savedGroups() {
