@@ -12,6 +12,7 @@ public final class TraceQuestions {
     private static final int ITEMS = 1000, KINDS = 20, PLACES = 50, DAYS = 20001, OWNERS = 100;
     private static final int ASKERS = 50, ON_A_PAGE = 10, EVERY_MOST = 1000, TICK_MOST = 1000;
     private static final int BOUND_FIRST = 100000, BOUND_MOST = 1000000;
+    private static final int ANY = -1;
     private static final int FIELDS = 5, ITEM = 0, KIND = 1, PLACE = 2, DAY = 3, OWNER = 4;
 
     private final Rows rows = new Rows();
@@ -106,7 +107,7 @@ public final class TraceQuestions {
         if (!isBelow(who, ASKERS)) {
             return UNKNOWN;
         }
-        if (owner != NONE && !isBelow(owner, OWNERS) || kind != NONE && !isBelow(kind, KINDS)) {
+        if (owner != ANY && !isBelow(owner, OWNERS) || kind != ANY && !isBelow(kind, KINDS)) {
             return OUTSIDE;
         }
         // A right that is held already needs no room.
@@ -350,7 +351,7 @@ public final class TraceQuestions {
         }
 
         void add(int who, int owner, int kind) {
-            if (who < 0 || who >= ASKERS || owner < NONE || owner >= OWNERS) {
+            if (who < 0 || who >= ASKERS || owner < ANY || owner >= OWNERS) {
                 return;
             }
             kinds[who][owner + 1] |= 1 << kind + 1;
@@ -359,12 +360,12 @@ public final class TraceQuestions {
         }
 
         boolean letSee(int who, int owner, int kind) {
-            int seen = kindsOf(who, NONE) | kindsOf(who, owner);
+            int seen = kindsOf(who, ANY) | kindsOf(who, owner);
             return (seen & (1 | 1 << kind + 1)) != 0;
         }
 
         private int kindsOf(int who, int owner) {
-            if (who < 0 || who >= ASKERS || owner < NONE || owner >= OWNERS) {
+            if (who < 0 || who >= ASKERS || owner < ANY || owner >= OWNERS) {
                 return 0;
             }
             return kinds[who][owner + 1];
