@@ -321,7 +321,7 @@ public final class TraceQuestions {
         }
 
         private void insert(int[] order, int place) {
-            for (int p = count - 1; p > place && p < order.length; p--) {
+            for (int p = count - 1; p > place && p > 0 && p < order.length; p--) {
                 order[p] = order[p - 1];
             }
             if (place >= 0 && place < order.length) {
