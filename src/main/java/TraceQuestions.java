@@ -595,10 +595,11 @@ public final class TraceQuestions {
         }
 
         private boolean takesTestField(char c) {
-            if (!isOpenField(c) || draft.tests() >= TESTS_MOST) {
+            int named = fieldOf(c);
+            if (!isOpenField(named) || draft.tests() >= TESTS_MOST) {
                 return false;
             }
-            field = fieldOf(c);
+            field = named;
             state = RELATION;
             return true;
         }
@@ -649,10 +650,11 @@ public final class TraceQuestions {
         }
 
         private boolean takesTailField(char c) {
-            if (!isOpenField(c)) {
+            int named = fieldOf(c);
+            if (!isOpenField(named)) {
                 return false;
             }
-            draft.setTailField(fieldOf(c));
+            draft.setTailField(named);
             state = END;
             return true;
         }
@@ -668,8 +670,7 @@ public final class TraceQuestions {
             state = BEHIND_TEST;
         }
 
-        private boolean isOpenField(char c) {
-            int named = fieldOf(c);
+        private boolean isOpenField(int named) {
             return named != NONE && (maskedFields >> named & 1) == 0;
         }
 

@@ -10,6 +10,8 @@ public final class CostTest {
         bounds();
         boundOutside();
         theBoundItself();
+        eachCostAndItsBound();
+        theDearest();
         check.end();
     }
 
@@ -36,6 +38,37 @@ public final class CostTest {
         dueCost(y, Check.times(39, "i=1|") + "i=1-i", 12300);
         TraceQuestions z = new TraceQuestions();
         dueCost(z, "i=1", 0);
+    }
+
+    /** Of none, one and several rows, and of 0 to 40 tests: the bound that is as much, and one less. */
+    private static void eachCostAndItsBound() {
+        for (int rows = 0; rows <= 3; rows++) {
+            for (int tests : new int[] {0, 1, 2, 39, 40}) {
+                String text = tests == 0 ? "" : Check.times(tests - 1, "i>9|") + "i=0";
+                int cost = rows * (tests + 1);
+                TraceQuestions x = Check.rows(rows);
+                check.due("bound(" + cost + ")", x.bound(cost), 100000);
+                check.dueAsk(x, 0, text, tests == 0 ? rows : Math.min(rows, 1));
+                check.due("cost of " + text, x.cost(), cost);
+                if (cost > 0) {
+                    x.bound(cost - 1);
+                    check.dueAsk(x, 0, text, DEAR);
+                    check.due("cost of " + text, x.cost(), cost);
+                }
+            }
+        }
+    }
+
+    /** The dearest question of all is not dear at first. */
+    private static void theDearest() {
+        TraceQuestions x = Check.rows(300);
+        check.dueAsk(x, 0, Check.times(39, "i=1|") + "i=1", 1);
+        check.due("its cost", x.cost(), 12300);
+        TraceQuestions y = Check.rows(300);
+        check.due("bound", y.bound(12299), 100000);
+        check.dueAsk(y, 0, Check.times(39, "i=1|") + "i=1", DEAR);
+        check.due("its cost", y.cost(), 12300);
+        check.due("bound", y.bound(1000000), 12299);
     }
 
     private static void latestWithoutFault() {

@@ -5,11 +5,15 @@ public final class FoundTest {
 
     public static void main(String[] args) {
         whatIsNotThere();
+        behindTheLast();
         maskedFields();
+        allMasked();
         groupsMasked();
         asTheyWereThen();
         theLatestThatWasAnswered();
+        rowsAfterGroups();
         othersChangeNothing();
+        theClockChangesNothing();
         check.end();
     }
 
@@ -37,6 +41,23 @@ public final class FoundTest {
         check.due("group 3", x.found(3, 1), NONE);
     }
 
+    /** Of none, one and several found: the last, the first behind it, and those that were found before. */
+    private static void behindTheLast() {
+        TraceQuestions x = Check.fourRows();
+        String[] texts = {"", "i=7", "i=8", "i=1", "#i", "i=8#i", "i=1#i"};
+        int[] counts = {4, 2, 1, 0, 3, 1, 0};
+        for (int t = 0; t < texts.length; t++) {
+            check.dueAsk(x, 0, texts[t], counts[t]);
+            for (int i = -1; i <= 5; i++) {
+                boolean there = i >= 0 && i < counts[t];
+                for (int what = 0; what <= 1; what++) {
+                    String call = "found(" + i + ", " + what + ") of " + texts[t];
+                    check.due(call + " is there", x.found(i, what) != NONE ? 1 : 0, there ? 1 : 0);
+                }
+            }
+        }
+    }
+
     private static void maskedFields() {
         TraceQuestions x = Check.fourRows();
         check.dueAsk(x, 0, "d=100", 1);
@@ -50,6 +71,20 @@ public final class FoundTest {
             x.masked(field, false);
             check.due("field " + field, x.found(0, field + 1), fields[field]);
         }
+    }
+
+    private static void allMasked() {
+        TraceQuestions x = Check.leastAndGreatest();
+        check.dueAsk(x, 0, "", 2);
+        for (int what = 1; what <= 5; what++) {
+            check.dueFound(x, what, 0, Check.greatest(what - 1));
+            x.masked(what - 1, true);
+            check.dueFound(x, what, NONE, NONE);
+        }
+        check.dueFound(x, 0, 1, 2);
+        check.dueAsk(x, 0, "", 2);
+        check.dueFound(x, 0, 1, 2);
+        check.dueFound(x, 4, NONE, NONE);
     }
 
     private static void groupsMasked() {
@@ -108,5 +143,34 @@ public final class FoundTest {
         check.dueFound(x, 0, 1, 2);
         check.due("scan", x.scan(2), 1);
         check.dueFound(x, 5, 5, 5);
+    }
+
+    private static void rowsAfterGroups() {
+        TraceQuestions x = Check.fourRows();
+        check.dueAsk(x, 0, "#i", 3);
+        check.dueFound(x, 1, 2, 1, 1);
+        check.due("a group's field", x.found(0, 2), NONE);
+        check.dueAsk(x, 0, "", 4);
+        check.dueFound(x, 1, 7, 7, 8, 9);
+        check.dueFound(x, 2, 2, 3, 2, 19);
+        check.dueAsk(x, 0, "#k", 3);
+        check.due("a group's field", x.found(0, 2), NONE);
+        check.dueFound(x, 1, 2, 1, 1);
+    }
+
+    /** What is found by a kept question: more, fewer, groups, of another asker. */
+    private static void theClockChangesNothing() {
+        for (String text : new String[] {"", "i=1", "#d", "-o"}) {
+            for (int who = 0; who < 2; who++) {
+                TraceQuestions x = Check.fourRows();
+                check.dueSave(x, who, 1, text, 1);
+                check.dueAsk(x, 0, "i=7-k", 2);
+                check.dueTick(x, 3, 3);
+                check.dueFound(x, 0, 2, 1);
+                check.dueFound(x, 2, 3, 2);
+                check.duePage(x, 4, 2, 1);
+                check.due("cost", x.cost(), 8);
+            }
+        }
     }
 }

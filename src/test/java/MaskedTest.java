@@ -6,6 +6,7 @@ public final class MaskedTest {
         onAndOff();
         outside();
         eachFieldForItself();
+        fromNowOn();
         check.end();
     }
 
@@ -45,5 +46,24 @@ public final class MaskedTest {
         x.masked(0, false);
         check.dueFound(x, 1, 7, 8);
         check.dueFound(x, 4, -1, -1);
+    }
+
+    /** For texts that are read and fields that are told, from the call on and no longer than it is so. */
+    private static void fromNowOn() {
+        for (int field = 0; field < 5; field++) {
+            TraceQuestions x = Check.leastAndGreatest();
+            String text = Check.letter(field) + "=0";
+            Check.write(x, text);
+            check.due("on", x.masked(field, true), 1);
+            check.due("written before", x.ask(0), -1);
+            Check.write(x, text);
+            check.due("off", x.masked(field, false), 1);
+            check.due("written while it was", x.ask(0), 1);
+            check.dueFound(x, field + 1, 0);
+            check.due("on", x.masked(field, true), 1);
+            check.dueFound(x, field + 1, TraceQuestions.NONE);
+            check.due("off", x.masked(field, false), 1);
+            check.dueFound(x, field + 1, 0);
+        }
     }
 }

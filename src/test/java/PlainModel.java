@@ -11,7 +11,6 @@ import java.util.function.Predicate;
  * texts and read anew at each asking, the clock going unit by unit. ModelTest holds both together.
  */
 final class PlainModel {
-    private static final String LETTERS = "ikpdo";
 
     private static final class Fault extends Exception {
         private static final long serialVersionUID = 1;
@@ -41,6 +40,18 @@ final class PlainModel {
     private long time = 0;
     private Asked latest = null;
     private Answer answer = new Answer(false, List.of());
+
+    int countOfRows() {
+        return rows.size();
+    }
+
+    int countOfFound() {
+        return answer.entries.size();
+    }
+
+    long time() {
+        return time;
+    }
 
     int row(int... fields) {
         int[] ends = {999, 19, 49, 20000, 99};
@@ -282,7 +293,7 @@ final class PlainModel {
         }
 
         private int field() throws Fault {
-            int field = LETTERS.indexOf(one(LETTERS));
+            int field = Check.LETTERS.indexOf(one(Check.LETTERS));
             if (masks.contains(field)) {
                 throw new Fault(at - 1);
             }

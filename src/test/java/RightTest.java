@@ -6,11 +6,15 @@ public final class RightTest {
 
     public static void main(String[] args) {
         howMany();
+        eachAsker();
         whatIsSeen();
+        ownerAndKind();
+        ownerAndKindOfOneRight();
         edges();
         hundredOfAll();
         hundredOfOne();
         scanRefused();
+        scanOfNoneOneAndAll();
         check.end();
     }
 
@@ -27,6 +31,54 @@ public final class RightTest {
         check.due("any kind again", x.right(0, 1, -1), 6);
         check.due("one within any", x.right(0, 50, 10), 7);
         check.due("another asker", x.right(1, 1, 1), 1);
+    }
+
+    private static void eachAsker() {
+        TraceQuestions x = new TraceQuestions();
+        x.row(0, 0, 0, 0, 0);
+        for (int who = 0; who < 50; who++) {
+            check.due("the first of " + who, x.right(who, -1, -1), 1);
+            check.due("the second of " + who, x.right(who, 0, 0), 2);
+            check.due("the second again of " + who, x.right(who, 0, 0), 2);
+            check.due("scan(" + who + ")", x.scan(who), 1);
+        }
+    }
+
+    /** Rows of three owners and three kinds, the least and the greatest among them, and one right. */
+    private static void ownerAndKind() {
+        int[] owners = {0, 1, 99};
+        int[] kinds = {0, 1, 19};
+        for (int owner : new int[] {-1, 0, 1, 50, 99}) {
+            for (int kind : new int[] {-1, 0, 1, 10, 19}) {
+                TraceQuestions x = new TraceQuestions();
+                check.due("right", x.right(7, owner, kind), 1);
+                int seen = 0;
+                for (int i = 0; i < 9; i++) {
+                    x.row(i, kinds[i % 3], 1, 1, owners[i / 3]);
+                    boolean sees = (owner == -1 || owner == owners[i / 3]) && (kind == -1 || kind == kinds[i % 3]);
+                    seen += sees ? 1 : 0;
+                    check.due("scan with right " + owner + ", " + kind, x.scan(7), seen);
+                }
+                check.due("scan of another", x.scan(8), 0);
+            }
+        }
+    }
+
+    /** The owner of one right and the kind of another make none seen. */
+    private static void ownerAndKindOfOneRight() {
+        TraceQuestions x = new TraceQuestions();
+        x.right(0, 1, 1);
+        x.right(0, 2, 2);
+        x.row(1, 2, 1, 1, 1);
+        x.row(1, 1, 1, 1, 2);
+        check.due("of two rights", x.scan(0), 0);
+        x.row(1, 1, 1, 1, 1);
+        x.row(1, 2, 1, 1, 2);
+        check.due("of one", x.scan(0), 2);
+        x.right(0, 1, -1);
+        check.due("any kind of 1", x.scan(0), 3);
+        x.right(0, -1, 1);
+        check.due("1 of any owner", x.scan(0), 4);
     }
 
     private static void whatIsSeen() {
@@ -70,6 +122,9 @@ public final class RightTest {
         TraceQuestions x = new TraceQuestions();
         check.due("asker -1", x.right(-1, 0, 0), UNKNOWN);
         check.due("asker 50", x.right(50, 0, 0), UNKNOWN);
+        check.due("asker the least", x.right(Integer.MIN_VALUE, 0, 0), UNKNOWN);
+        check.due("asker the greatest", x.right(Integer.MAX_VALUE, 0, 0), UNKNOWN);
+        check.due("asker -1, kind 20", x.right(-1, 0, 20), UNKNOWN);
         check.due("asker 50, owner 100", x.right(50, 100, 0), UNKNOWN);
         check.due("owner -2", x.right(0, -2, 0), OUTSIDE);
         check.due("owner 100", x.right(0, 100, 0), OUTSIDE);
@@ -109,6 +164,9 @@ public final class RightTest {
             check.due("right " + i, x.right(20, i, -1), i + 2 > 100 ? TraceQuestions.ROOM : i + 2);
         }
         check.due("one of another", x.right(21, 1, 1), TraceQuestions.ROOM);
+        check.due("the first again", x.right(20, 5, 5), 100);
+        check.due("the last again", x.right(20, 98, -1), 100);
+        check.due("the one that did not come", x.right(20, 99, -1), TraceQuestions.ROOM);
     }
 
     private static void scanRefused() {
@@ -118,5 +176,20 @@ public final class RightTest {
         check.due("scan of the least", x.scan(Integer.MIN_VALUE), UNKNOWN);
         check.due("scan of the greatest", x.scan(Integer.MAX_VALUE), UNKNOWN);
         check.due("scan(49)", x.scan(49), 0);
+    }
+
+    private static void scanOfNoneOneAndAll() {
+        TraceQuestions x = new TraceQuestions();
+        x.right(0, -1, -1);
+        x.right(49, 3, -1);
+        for (int i = 0; i < 300; i++) {
+            if (i % 10 < 2) {
+                check.due("scan(0) of " + i, x.scan(0), i);
+            }
+            x.row(i, 1, 1, 1, i == 299 ? 3 : 4);
+        }
+        check.due("scan(0)", x.scan(0), 300);
+        check.due("scan(49)", x.scan(49), 1);
+        check.due("scan(48)", x.scan(48), 0);
     }
 }

@@ -1,10 +1,8 @@
-/** Promise 3, and what ask() and save() say of a text: its faults, and when it is empty. */
+/** What ask() and save() say of a text: its faults, and when it is empty. */
 public final class TextTest {
     private static final Check check = new Check("TextTest");
 
     public static void main(String[] args) {
-        signsThatAreTaken();
-        twoHundredSigns();
         whenTheTextIsEmpty();
         faultsOfSigns();
         faultsOfNumbers();
@@ -36,46 +34,6 @@ public final class TextTest {
         check.due("save of " + text, x.save(0, 1), 1);
         Check.write(x, text);
         check.due("ask without fault of " + text, x.ask(0) >= 0 ? 1 : 0, 1);
-    }
-
-    private static void signsThatAreTaken() {
-        int[] untaken = {31, 127, 0, -1, 128, 200, 0x10000 + 'i', Integer.MIN_VALUE, Integer.MAX_VALUE, '\n'};
-        for (int c : untaken) {
-            TraceQuestions x = one();
-            x.sign(c);
-            check.due("ask after sign(" + c + ")", x.ask(0), 1);
-        }
-        for (int c = 32; c <= 126; c++) {
-            TraceQuestions x = one();
-            Check.write(x, "i=0");
-            x.sign(c);
-            boolean figure = c >= '0' && c <= '9';
-            boolean more = "&|#+-".indexOf(c) >= 0;
-            if (!figure) {
-                check.due("ask of i=0 and sign(" + c + ")", x.ask(0), more ? -5 : -4);
-            } else {
-                check.due("ask of i=0 and sign(" + c + ")", x.ask(0), c == '0' ? 1 : 0);
-            }
-        }
-    }
-
-    private static void twoHundredSigns() {
-        String full = Check.times(49, "i=0|") + "i=00";
-        TraceQuestions x = one();
-        check.dueAsk(x, 0, full, -1 - 160);
-        // 199 signs, the 200th, and one that is not taken
-        String tests = Check.times(39, "i=0|");
-        String rest = Check.times(20, "!") + "i=0" + Check.times(21, " ");
-        check.due("length", (tests + rest).length(), 200);
-        check.dueAsk(x, 0, tests + rest, -1 - 179);
-        String fine = Check.times(38, "!i=0|") + "!!!!!i=0";
-        check.due("length", fine.length(), 198);
-        check.dueAsk(x, 0, fine + "#", -1 - 199);
-        check.dueAsk(x, 0, fine + "#i", 0);
-        check.dueAsk(x, 0, fine + "#ii", 0);
-        check.dueAsk(x, 0, fine + "#i and more", 0);
-        check.dueAsk(x, 0, fine + "#i", 0);
-        check.dueAsk(x, 0, "!" + fine + "#i", -1 - 200);
     }
 
     private static void whenTheTextIsEmpty() {
@@ -169,7 +127,7 @@ public final class TextTest {
 
     private static void faultsOfTails() {
         for (String sign : new String[] {"#", "+", "-"}) {
-            for (String letter : new String[] {"i", "k", "p", "d", "o"}) {
+            for (String letter : Check.LETTERS.split("")) {
                 dueFine(sign + letter);
                 dueFine("i=1" + sign + letter);
                 dueFine("(i=1)" + sign + letter);
@@ -262,12 +220,11 @@ public final class TextTest {
     }
 
     private static void faultsOfMasks() {
-        String letters = "ikpdo";
         for (int field = 0; field < 5; field++) {
             TraceQuestions x = one();
             x.masked(field, true);
             for (int other = 0; other < 5; other++) {
-                String letter = letters.substring(other, other + 1);
+                String letter = "" + Check.letter(other);
                 boolean masked = other == field;
                 check.dueAsk(x, 0, letter + ">99", masked ? -1 : 0);
                 check.dueAsk(x, 0, "!(" + letter + ">99)", masked ? -3 : 1);
@@ -278,7 +235,7 @@ public final class TextTest {
                 check.due("save", x.save(0, 1), masked ? -2 : other + (other > field ? 0 : 1));
             }
             x.masked(field, false);
-            check.dueAsk(x, 0, "+" + letters.charAt(field), 1);
+            check.dueAsk(x, 0, "+" + Check.letter(field), 1);
         }
     }
 
