@@ -41,6 +41,8 @@ public final class RightTest {
             check.due("the second of " + who, x.right(who, 0, 0), 2);
             check.due("the second again of " + who, x.right(who, 0, 0), 2);
             check.due("scan(" + who + ")", x.scan(who), 1);
+            check.dueAsk(x, who, "", 1);
+            check.dueFound(x, 0, 1);
         }
     }
 
